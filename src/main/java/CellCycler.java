@@ -934,18 +934,14 @@ public final class CellCycler {
             size = 0;
         }
 
-        /** Makes room for a row at the end and returns its index. */
+        /** Makes room for a row at the end and returns the place of its first number. */
         private int addRow() {
             if (size < limit) {
                 size++;
             } else {
                 oldest = oldest + 1 < limit ? oldest + 1 : 0;
             }
-            return size - 1;
-        }
-
-        private void set(int row, int column, int number) {
-            put(numbers, placeOf(row) + column, number);
+            return placeOf(size - 1);
         }
 
         private int get(int row, int column) {
@@ -1408,12 +1404,13 @@ public final class CellCycler {
             Ledger books = cell.books;
             boolean byVoltage = cell.voltage <= world.programs.secondOf(program, step);
             boolean counts = heldSince && byVoltage;
-            int row = world.records.addRow();
-            world.records.set(row, RECORD_CHANNEL, index);
-            world.records.set(row, RECORD_IN, (int) (books.chargeIn - baseIn));
-            world.records.set(row, RECORD_OUT, (int) (books.chargeOut - baseOut));
-            world.records.set(row, RECORD_TIME, world.time);
-            world.records.set(row, RECORD_COUNTS, counts ? 1 : 0);
+            int[] numbers = world.records.numbers;
+            int place = world.records.addRow();
+            put(numbers, place + RECORD_CHANNEL, index);
+            put(numbers, place + RECORD_IN, (int) (books.chargeIn - baseIn));
+            put(numbers, place + RECORD_OUT, (int) (books.chargeOut - baseOut));
+            put(numbers, place + RECORD_TIME, world.time);
+            put(numbers, place + RECORD_COUNTS, counts ? 1 : 0);
             if (counts) {
                 meter.capacity = (int) (books.chargeOut - stepBaseOut);
             }
@@ -1537,11 +1534,11 @@ public final class CellCycler {
         }
 
         private void note(int channel, int event, int number) {
-            int row = log.addRow();
-            log.set(row, LOG_TIME, time);
-            log.set(row, LOG_CHANNEL, channel);
-            log.set(row, LOG_EVENT, event);
-            log.set(row, LOG_NUMBER, number);
+            int place = log.addRow();
+            put(log.numbers, place + LOG_TIME, time);
+            put(log.numbers, place + LOG_CHANNEL, channel);
+            put(log.numbers, place + LOG_EVENT, event);
+            put(log.numbers, place + LOG_NUMBER, number);
         }
 
         private boolean recordCounts(int row, int channel) {
