@@ -617,14 +617,16 @@ public final class CellCycler {
 
     public int safeCurrent(int channel, int ticks)
             throws IndexOutOfBoundsException, IllegalArgumentException {
-        needChannel(channel);
+        Cell cell = needChannel(channel).cell;
         needRange(ticks, 1, 1000);
+        Cell trial = needTrial(channel).cell;
         // With derating a greater current may be safe where 100 is not: then the answer is NONE too.
-        if (!isSafe(needTrial(channel).cell, CURRENT_STRIDE, ticks)) {
+        if (!isSafe(trial, CURRENT_STRIDE, ticks)) {
             return NONE;
         }
         for (int i = CURRENT_LIMIT; i > CURRENT_STRIDE; i -= CURRENT_STRIDE) {
-            if (isSafe(needTrial(channel).cell, i, ticks)) {
+            trial.copyFrom(cell);
+            if (isSafe(trial, i, ticks)) {
                 return i;
             }
         }
@@ -926,7 +928,7 @@ public final class CellCycler {
         private Table(int rows, int columns) {
             limit = Math.max(1, rows);
             width = Math.max(1, columns);
-            numbers = new int[limit * width];
+            numbers = new int[Math.max(1, limit * width)];
         }
 
         private void clear() {

@@ -319,6 +319,25 @@ public final class CellTest {
         edge.start(0, 0);
         edge.advance(1);
         CHECK.same("the bounds themselves are no reason", edge.warned(0), 0);
+        CellCycler usual = Check.loaded("curve a 0 0;curve b 5000 5000;cell a 1000 500 0 1;"
+                + "cell b 1000 1 0 1;cell b 1000 1 0 1;program rest 5;program charge 1000 5000");
+        usual.start(0, 0);
+        usual.start(1, 0);
+        usual.start(2, 1);
+        usual.advance(1);
+        CHECK.same("0 is not below the usual LOW", usual.warned(0), 0);
+        CHECK.same("5000 is not above the usual HIGH", usual.warned(1), 0);
+        CHECK.same("5001 is", usual.warned(2), 1);
+        CellCycler hotter = Check.loaded("curve a 0 0;cell a 1000 100 0 1;heat 1 0;limits 0 5000 1000;"
+                + "program charge 2740 5000;program charge 100 5000");
+        hotter.start(0, 0);
+        hotter.advance(1);
+        CHECK.same("750 more", hotter.value(0, 9), 1000);
+        CHECK.same("1000 is not above the usual HOT", hotter.warned(0), 0);
+        hotter.stop(0);
+        hotter.start(0, 1);
+        hotter.advance(1);
+        CHECK.same("1001 is", hotter.warned(0), 3);
         CellCycler trip = Check.loaded(PLAIN + "warn 0 3400 1000;limits 0 3400 600;program rest 5");
         trip.start(0, 0);
         trip.advance(1);

@@ -104,6 +104,21 @@ public final class DescriptionTest {
         error(twelve + " rest 9999", 1, 92);
         error(twelve + " 7", 1, 92);
         error("program repeat", 1, 14);
+        String[] statements = {"curve a 1 2", "cell a 100 1 0 1", "program rest 1", "efficiency 500",
+            "fade 100", "heat 1 0", "limits 0 1 250", "ambient 0", "warn 0 0 0", "derate 0"};
+        for (String one : statements) {
+            String last = "curve q 1 2;" + one.replace("cell a", "cell q");
+            good(last, one.startsWith("cell") ? 1 : 0);
+            error("x" + one.substring(1), 1, 0);
+            error(one.replaceFirst(" ", "x "), 1, 0);
+            error(one.replaceFirst(". ", " "), 1, 0);
+        }
+        for (String one : new String[] {"charge 1 1", "hold 1 1", "discharge 1 1", "rest 1", "repeat 0 1"}) {
+            good("program rest 1 " + one, 0);
+            error("program rest 1 x" + one.substring(1), 1, 15);
+            error("program rest 1 " + one.replaceFirst(" ", "x "), 1, 15);
+            error("program rest 1 " + one.replaceFirst(". ", " "), 1, 15);
+        }
     }
 
     private static void ranges() {
@@ -175,6 +190,19 @@ public final class DescriptionTest {
         error("curve a 1 2;cell aa 100 1 0 1", 3, 17);
         error("curve a 1 2;cell abcdefgh 100 1 0 1", 3, 17);
         error("cell a 100 1 0 1;curve a 1 2", 3, 5);
+        good("curve abcdef 1 2;cell abcdef 100 1 0 1;curve az 1 2;cell az 100 1 0 1", 2);
+        CellCycler x = Check.loaded("curve ab 1 2;curve ba 1 2;curve b 1 2;curve bb 1 2");
+        String[] names = {"ba", "ab", "bb", "b", "aa", "a", "abb", "abcdefg"};
+        int[] numbers = {1, 0, 3, 2, -1, -1, -1, -1};
+        for (int k = 0; k < names.length; k++) {
+            Check.type(x, names[k]);
+            CHECK.same("curve " + names[k], x.curveNamed(), numbers[k]);
+        }
+        Check.load(x, "curve zyxwvu 1 2;curve z 1 2");
+        Check.type(x, "zyxwvu");
+        CHECK.same("six letters", x.curveNamed(), 0);
+        Check.type(x, "zyxwvuz");
+        CHECK.same("seven letters", x.curveNamed(), -1);
         String four = "curve a 1 2;curve b 1 2;curve c 1 2;curve d 1 2";
         good(four, 0);
         error(four + "; curve e 1 2", 4, 49);

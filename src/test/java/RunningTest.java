@@ -163,6 +163,28 @@ public final class RunningTest {
         CHECK.same("a start begins anew", x.repeats(0, 1), 0);
     }
 
+    private static void chainsOfRepeats() {
+        StringBuilder chain = new StringBuilder(CELL + "program rest 1");
+        StringBuilder twice = new StringBuilder(";program rest 1");
+        for (int k = 0; k < 11; k++) {
+            chain.append(" repeat ").append(k).append(" 1");
+            twice.append(" repeat 0 1");
+        }
+        CellCycler x = Check.loaded(chain.toString() + twice);
+        CHECK.same("each one doubles what comes before it", x.duration(0, 1), 2048);
+        CHECK.same("each one goes back to 0 by all before it", x.duration(0, 0), 12);
+        x.start(0, 0);
+        // Behind tick 11, ten repeats are passed and eleven go back.
+        CHECK.same("all but one", x.advance(11), 11);
+        for (int k = 0; k < 12; k++) {
+            CHECK.same("repeat " + k, x.repeats(0, k), k == 0 ? 0 : 1);
+        }
+        CHECK.same("the last", x.advance(2), 1);
+        CHECK.same("done", x.value(0, 0), 3);
+        CHECK.same("repeats are no events", x.eventsOf(0, 1), 12);
+        CHECK.same("their numbers are 0 again", x.repeats(0, 11), 0);
+    }
+
     private static void skips() {
         CellCycler x = Check.loaded(CELL + "program rest 5 hold 3500 5000 discharge 100 3450 rest 2"
                 + " repeat 3 1;program rest 1");
@@ -289,6 +311,7 @@ public final class RunningTest {
         trips();
         longSteps();
         repeatSteps();
+        chainsOfRepeats();
         skips();
         replaceCell();
         queues();

@@ -132,6 +132,23 @@ public final class SnapshotTest {
         CHECK.fails("no channel 1", "index", () -> x.value(1, 0));
     }
 
+    private static void withinADischarge() {
+        CellCycler x = Check.loaded("curve a 3000 4000;cell a 1000 100 0 1;"
+                + "program hold 3500 5000 discharge 100 3450 hold 3400 5000 discharge 100 3200");
+        x.start(0, 0);
+        x.advance(4);
+        CHECK.same("of the first", x.capacityByRule(0), 100);
+        x.saveSnapshot(0);
+        x.stop(0);
+        x.replace(0, 500);
+        x.start(0, 0);
+        x.advance(2);
+        x.restoreSnapshot(0);
+        x.advance(1);
+        CHECK.same("of the second", x.capacityByRule(0), 200);
+        CHECK.same("its record", x.record(1, 2), 200);
+    }
+
     private static void empty() {
         CellCycler x = new CellCycler();
         CHECK.same("save nothing", x.saveSnapshot(0), 0);
@@ -147,6 +164,7 @@ public final class SnapshotTest {
         there();
         two();
         overLoads();
+        withinADischarge();
         empty();
         CHECK.finish();
     }
