@@ -142,7 +142,7 @@ public final class SnapshotTest {
         x.stop(0);
         x.replace(0, 500);
         x.start(0, 0);
-        x.advance(2);
+        x.advance(1);
         x.restoreSnapshot(0);
         x.advance(1);
         CHECK.same("of the second", x.capacityByRule(0), 200);
