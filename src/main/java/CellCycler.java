@@ -936,20 +936,20 @@ public final class CellCycler {
             size = 0;
         }
 
-        /** Makes room for a row at the end and returns the place of its first number. */
-        private int addRow() {
+        /** Makes room for a row at the end. */
+        private void addRow() {
             if (size < limit) {
                 size++;
             } else {
                 oldest = oldest + 1 < limit ? oldest + 1 : 0;
             }
-            return placeOf(size - 1);
         }
 
         private int get(int row, int column) {
             return at(numbers, placeOf(row) + column);
         }
 
+        /** Where the numbers of a row begin. */
         private int placeOf(int row) {
             int slot = oldest + row;
             return (slot < limit ? slot : slot - limit) * width;
@@ -1406,8 +1406,10 @@ public final class CellCycler {
             Ledger books = cell.books;
             boolean byVoltage = cell.voltage <= world.programs.secondOf(program, step);
             boolean counts = heldSince && byVoltage;
-            int[] numbers = world.records.numbers;
-            int place = world.records.addRow();
+            Table records = world.records;
+            records.addRow();
+            int[] numbers = records.numbers;
+            int place = records.placeOf(records.size - 1);
             put(numbers, place + RECORD_CHANNEL, index);
             put(numbers, place + RECORD_IN, (int) (books.chargeIn - baseIn));
             put(numbers, place + RECORD_OUT, (int) (books.chargeOut - baseOut));
@@ -1536,7 +1538,8 @@ public final class CellCycler {
         }
 
         private void note(int channel, int event, int number) {
-            int place = log.addRow();
+            log.addRow();
+            int place = log.placeOf(log.size - 1);
             put(log.numbers, place + LOG_TIME, time);
             put(log.numbers, place + LOG_CHANNEL, channel);
             put(log.numbers, place + LOG_EVENT, event);
