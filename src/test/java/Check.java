@@ -33,6 +33,20 @@ final class Check {
         }
     }
 
+    /** A text whose first error has this number and position. */
+    void error(String text, int number, int position) {
+        CellCycler x = new CellCycler();
+        same("load of '" + text + "'", load(x, text), -100 - position);
+        same("loadError of '" + text + "'", x.loadError(), number);
+    }
+
+    /** A text without an error, with so many cells. */
+    void good(String text, int channels) {
+        CellCycler x = new CellCycler();
+        same("load of '" + text + "'", load(x, text), channels);
+        same("loadError of '" + text + "'", x.loadError(), 0);
+    }
+
     void finish() {
         System.out.println(checked + " answers, " + wrong + " not as due");
         if (wrong != 0 || checked == 0) {

@@ -2,18 +2,6 @@
 public final class DescriptionTest {
     private static final Check CHECK = new Check();
 
-    private static void error(String text, int number, int position) {
-        CellCycler x = new CellCycler();
-        CHECK.same("load of '" + text + "'", Check.load(x, text), -100 - position);
-        CHECK.same("loadError of '" + text + "'", x.loadError(), number);
-    }
-
-    private static void good(String text, int channels) {
-        CellCycler x = new CellCycler();
-        CHECK.same("load of '" + text + "'", Check.load(x, text), channels);
-        CHECK.same("loadError of '" + text + "'", x.loadError(), 0);
-    }
-
     private static void newObject() {
         CellCycler x = new CellCycler();
         CHECK.same("new count(0)", x.count(0), 0);
@@ -62,135 +50,135 @@ public final class DescriptionTest {
     }
 
     private static void whereWordsStand() {
-        error("", 1, 0);
-        error("   ", 1, 3);
-        error("x", 1, 0);
-        error("  curves a 1 2", 1, 2);
-        error("Curve a 1 2", 1, 0);
-        error("5", 1, 0);
-        error(";", 1, 0);
-        error("ambient 5;", 1, 10);
-        error("ambient 5; ", 1, 11);
-        error("ambient 5;;ambient 5", 1, 10);
-        error("ambient", 1, 7);
-        error("ambient ", 1, 8);
-        error("ambient -5", 1, 8);
-        error("ambient five", 1, 8);
-        error("ambient 5 5", 1, 10);
-        error("ambient 5 rest", 1, 10);
-        error("ambient 5\n", 1, 9);
-        good("ambient 5 ; ambient 6  ", 0);
-        good("ambient5;ambient0006", 0);
-        error("curve 5 1 2", 1, 6);
-        error("curve", 1, 5);
-        error("curve a", 1, 7);
-        error("curve a 1", 1, 9);
-        error("curve a 1;", 1, 9);
-        error("curve a 1 2 b", 1, 12);
-        good("curve a 0 1 2 3 4 5 6 7 8 9 10", 0);
-        error("curve a 0 1 2 3 4 5 6 7 8 9 10 11", 1, 31);
-        error("curve a 0 1 2 3 4 5 6 7 8 9 10 99999", 1, 31);
-        error("program", 1, 7);
-        error("program;", 1, 7);
-        error("program 5", 1, 8);
-        error("program sleep 5", 1, 8);
-        error("program rest 5 sleep 5", 1, 15);
-        error("program rest 5 6", 1, 15);
-        error("program charge 5", 1, 16);
-        error("program charge 5 rest 5", 1, 17);
+        CHECK.error("", 1, 0);
+        CHECK.error("   ", 1, 3);
+        CHECK.error("x", 1, 0);
+        CHECK.error("  curves a 1 2", 1, 2);
+        CHECK.error("Curve a 1 2", 1, 0);
+        CHECK.error("5", 1, 0);
+        CHECK.error(";", 1, 0);
+        CHECK.error("ambient 5;", 1, 10);
+        CHECK.error("ambient 5; ", 1, 11);
+        CHECK.error("ambient 5;;ambient 5", 1, 10);
+        CHECK.error("ambient", 1, 7);
+        CHECK.error("ambient ", 1, 8);
+        CHECK.error("ambient -5", 1, 8);
+        CHECK.error("ambient five", 1, 8);
+        CHECK.error("ambient 5 5", 1, 10);
+        CHECK.error("ambient 5 rest", 1, 10);
+        CHECK.error("ambient 5\n", 1, 9);
+        CHECK.good("ambient 5 ; ambient 6  ", 0);
+        CHECK.good("ambient5;ambient0006", 0);
+        CHECK.error("curve 5 1 2", 1, 6);
+        CHECK.error("curve", 1, 5);
+        CHECK.error("curve a", 1, 7);
+        CHECK.error("curve a 1", 1, 9);
+        CHECK.error("curve a 1;", 1, 9);
+        CHECK.error("curve a 1 2 b", 1, 12);
+        CHECK.good("curve a 0 1 2 3 4 5 6 7 8 9 10", 0);
+        CHECK.error("curve a 0 1 2 3 4 5 6 7 8 9 10 11", 1, 31);
+        CHECK.error("curve a 0 1 2 3 4 5 6 7 8 9 10 99999", 1, 31);
+        CHECK.error("program", 1, 7);
+        CHECK.error("program;", 1, 7);
+        CHECK.error("program 5", 1, 8);
+        CHECK.error("program sleep 5", 1, 8);
+        CHECK.error("program rest 5 sleep 5", 1, 15);
+        CHECK.error("program rest 5 6", 1, 15);
+        CHECK.error("program charge 5", 1, 16);
+        CHECK.error("program charge 5 rest 5", 1, 17);
         String twelve = "program rest 1 rest 1 rest 1 rest 1 rest 1 rest 1"
                 + " rest 1 rest 1 rest 1 rest 1 rest 1 rest 1";
-        good(twelve, 0);
-        error(twelve + " rest 9999", 1, 92);
-        error(twelve + " 7", 1, 92);
-        error("program repeat", 1, 14);
+        CHECK.good(twelve, 0);
+        CHECK.error(twelve + " rest 9999", 1, 92);
+        CHECK.error(twelve + " 7", 1, 92);
+        CHECK.error("program repeat", 1, 14);
         String[] statements = {"curve a 1 2", "cell a 100 1 0 1", "program rest 1", "efficiency 500",
             "fade 100", "heat 1 0", "limits 0 1 250", "ambient 0", "warn 0 0 0", "derate 0"};
         for (String one : statements) {
             String last = "curve q 1 2;" + one.replace("cell a", "cell q");
-            good(last, one.startsWith("cell") ? 1 : 0);
-            error("x" + one.substring(1), 1, 0);
-            error(one.replaceFirst(" ", "x "), 1, 0);
-            error(one.replaceFirst(". ", " "), 1, 0);
+            CHECK.good(last, one.startsWith("cell") ? 1 : 0);
+            CHECK.error("x" + one.substring(1), 1, 0);
+            CHECK.error(one.replaceFirst(" ", "x "), 1, 0);
+            CHECK.error(one.replaceFirst(". ", " "), 1, 0);
         }
         for (String one : new String[] {"charge 1 1", "hold 1 1", "discharge 1 1", "rest 1", "repeat 0 1"}) {
-            good("program rest 1 " + one, 0);
-            error("program rest 1 x" + one.substring(1), 1, 15);
-            error("program rest 1 " + one.replaceFirst(" ", "x "), 1, 15);
-            error("program rest 1 " + one.replaceFirst(". ", " "), 1, 15);
+            CHECK.good("program rest 1 " + one, 0);
+            CHECK.error("program rest 1 x" + one.substring(1), 1, 15);
+            CHECK.error("program rest 1 " + one.replaceFirst(" ", "x "), 1, 15);
+            CHECK.error("program rest 1 " + one.replaceFirst(". ", " "), 1, 15);
         }
     }
 
     private static void ranges() {
-        error("ambient 501", 2, 8);
-        good("ambient 500", 0);
-        error("ambient 99999999999999999999999", 2, 8);
-        error("ambient 4294967296", 2, 8);
-        error("efficiency 499", 2, 11);
-        error("efficiency 1001", 2, 11);
-        good("efficiency 500;efficiency 1000", 0);
-        error("fade 99", 2, 5);
-        error("fade 1000001", 2, 5);
-        good("fade 100;fade 1000000", 0);
-        error("heat 0 0", 2, 5);
-        error("heat 10001 0", 2, 5);
-        error("heat 50 51", 2, 8);
-        error("heat 500 101", 2, 9);
-        good("heat 50 50;heat 500 100;heat 1 0", 0);
-        error("limits 5001 0 0", 2, 7);
-        error("limits 10 9 600", 2, 10);
-        error("limits 10 5001 600", 2, 10);
-        error("limits 10 10 249", 2, 13);
-        error("limits 10 10 1001", 2, 13);
-        good("limits 10 10 250;limits 0 5000 1000", 0);
-        error("warn 5001 0 0", 2, 5);
-        error("warn 10 9 600", 2, 8);
-        error("warn 10 5001 600", 2, 8);
-        error("warn 10 10 1001", 2, 11);
-        good("warn 10 10 0;warn 0 5000 1000", 0);
-        error("derate 201", 2, 7);
-        good("derate 200", 0);
-        error("curve a 5001 1", 2, 8);
-        error("curve a 7 6", 2, 10);
-        error("curve a 7 7 7 6", 2, 14);
-        good("curve a 0 0 5000 5000", 0);
+        CHECK.error("ambient 501", 2, 8);
+        CHECK.good("ambient 500", 0);
+        CHECK.error("ambient 99999999999999999999999", 2, 8);
+        CHECK.error("ambient 4294967296", 2, 8);
+        CHECK.error("efficiency 499", 2, 11);
+        CHECK.error("efficiency 1001", 2, 11);
+        CHECK.good("efficiency 500;efficiency 1000", 0);
+        CHECK.error("fade 99", 2, 5);
+        CHECK.error("fade 1000001", 2, 5);
+        CHECK.good("fade 100;fade 1000000", 0);
+        CHECK.error("heat 0 0", 2, 5);
+        CHECK.error("heat 10001 0", 2, 5);
+        CHECK.error("heat 50 51", 2, 8);
+        CHECK.error("heat 500 101", 2, 9);
+        CHECK.good("heat 50 50;heat 500 100;heat 1 0", 0);
+        CHECK.error("limits 5001 0 0", 2, 7);
+        CHECK.error("limits 10 9 600", 2, 10);
+        CHECK.error("limits 10 5001 600", 2, 10);
+        CHECK.error("limits 10 10 249", 2, 13);
+        CHECK.error("limits 10 10 1001", 2, 13);
+        CHECK.good("limits 10 10 250;limits 0 5000 1000", 0);
+        CHECK.error("warn 5001 0 0", 2, 5);
+        CHECK.error("warn 10 9 600", 2, 8);
+        CHECK.error("warn 10 5001 600", 2, 8);
+        CHECK.error("warn 10 10 1001", 2, 11);
+        CHECK.good("warn 10 10 0;warn 0 5000 1000", 0);
+        CHECK.error("derate 201", 2, 7);
+        CHECK.good("derate 200", 0);
+        CHECK.error("curve a 5001 1", 2, 8);
+        CHECK.error("curve a 7 6", 2, 10);
+        CHECK.error("curve a 7 7 7 6", 2, 14);
+        CHECK.good("curve a 0 0 5000 5000", 0);
         String curve = "curve a 1 2;";
-        error(curve + "cell a 99 1 0 1", 2, 19);
-        error(curve + "cell a 100001 1 0 1", 2, 19);
-        error(curve + "cell a 100 0 0 1", 2, 23);
-        error(curve + "cell a 100 501 0 1", 2, 23);
-        error(curve + "cell a 100 1 501 1", 2, 25);
-        error(curve + "cell a 100 1 0 0", 2, 27);
-        error(curve + "cell a 100 1 0 201", 2, 27);
-        good(curve + "cell a 100 1 0 1;cell a 100000 500 500 200", 2);
-        error("program charge 0 1", 2, 15);
-        error("program charge 5001 1", 2, 15);
-        error("program charge 1 5001", 2, 17);
-        error("program hold 5001 1", 2, 13);
-        error("program hold 0 0", 2, 15);
-        error("program hold 0 5001", 2, 15);
-        error("program discharge 0 1", 2, 18);
-        error("program discharge 1 5001", 2, 20);
-        error("program rest 0", 2, 13);
-        error("program rest 5001", 2, 13);
-        good("program charge 1 0 charge 5000 5000 hold 0 1 hold 5000 5000 discharge 1 0"
+        CHECK.error(curve + "cell a 99 1 0 1", 2, 19);
+        CHECK.error(curve + "cell a 100001 1 0 1", 2, 19);
+        CHECK.error(curve + "cell a 100 0 0 1", 2, 23);
+        CHECK.error(curve + "cell a 100 501 0 1", 2, 23);
+        CHECK.error(curve + "cell a 100 1 501 1", 2, 25);
+        CHECK.error(curve + "cell a 100 1 0 0", 2, 27);
+        CHECK.error(curve + "cell a 100 1 0 201", 2, 27);
+        CHECK.good(curve + "cell a 100 1 0 1;cell a 100000 500 500 200", 2);
+        CHECK.error("program charge 0 1", 2, 15);
+        CHECK.error("program charge 5001 1", 2, 15);
+        CHECK.error("program charge 1 5001", 2, 17);
+        CHECK.error("program hold 5001 1", 2, 13);
+        CHECK.error("program hold 0 0", 2, 15);
+        CHECK.error("program hold 0 5001", 2, 15);
+        CHECK.error("program discharge 0 1", 2, 18);
+        CHECK.error("program discharge 1 5001", 2, 20);
+        CHECK.error("program rest 0", 2, 13);
+        CHECK.error("program rest 5001", 2, 13);
+        CHECK.good("program charge 1 0 charge 5000 5000 hold 0 1 hold 5000 5000 discharge 1 0"
                 + " discharge 5000 5000 rest 1 rest 5000 repeat 0 1 repeat 8 50", 0);
-        error("program rest 1 repeat 1 1", 2, 22);
-        error("program rest 1 repeat 0 0", 2, 24);
-        error("program rest 1 repeat 0 51", 2, 24);
-        error("program repeat 0 1", 2, 15);
+        CHECK.error("program rest 1 repeat 1 1", 2, 22);
+        CHECK.error("program rest 1 repeat 0 0", 2, 24);
+        CHECK.error("program rest 1 repeat 0 51", 2, 24);
+        CHECK.error("program repeat 0 1", 2, 15);
     }
 
     private static void namesAndCounts() {
-        good("curve abcdef 1 2;curve curve 1 2;curve cell 1 2;cell curve 100 1 0 1", 1);
-        error("curve abcdefg 1 2", 3, 6);
-        error("curve a 1 2;curve a 1 2", 3, 18);
-        error("curve abcdefg", 3, 6);
-        error("cell a 100 1 0 1", 3, 5);
-        error("curve a 1 2;cell aa 100 1 0 1", 3, 17);
-        error("curve a 1 2;cell abcdefgh 100 1 0 1", 3, 17);
-        error("cell a 100 1 0 1;curve a 1 2", 3, 5);
-        good("curve abcdef 1 2;cell abcdef 100 1 0 1;curve az 1 2;cell az 100 1 0 1", 2);
+        CHECK.good("curve abcdef 1 2;curve curve 1 2;curve cell 1 2;cell curve 100 1 0 1", 1);
+        CHECK.error("curve abcdefg 1 2", 3, 6);
+        CHECK.error("curve a 1 2;curve a 1 2", 3, 18);
+        CHECK.error("curve abcdefg", 3, 6);
+        CHECK.error("cell a 100 1 0 1", 3, 5);
+        CHECK.error("curve a 1 2;cell aa 100 1 0 1", 3, 17);
+        CHECK.error("curve a 1 2;cell abcdefgh 100 1 0 1", 3, 17);
+        CHECK.error("cell a 100 1 0 1;curve a 1 2", 3, 5);
+        CHECK.good("curve abcdef 1 2;cell abcdef 100 1 0 1;curve az 1 2;cell az 100 1 0 1", 2);
         CellCycler x = Check.loaded("curve ab 1 2;curve ba 1 2;curve b 1 2;curve bb 1 2");
         String[] names = {"ba", "ab", "bb", "b", "aa", "a", "abb", "abcdefg"};
         int[] numbers = {1, 0, 3, 2, -1, -1, -1, -1};
@@ -204,18 +192,18 @@ public final class DescriptionTest {
         Check.type(x, "zyxwvuz");
         CHECK.same("seven letters", x.curveNamed(), -1);
         String four = "curve a 1 2;curve b 1 2;curve c 1 2;curve d 1 2";
-        good(four, 0);
-        error(four + "; curve e 1 2", 4, 49);
-        error(four + ";curve", 4, 48);
+        CHECK.good(four, 0);
+        CHECK.error(four + "; curve e 1 2", 4, 49);
+        CHECK.error(four + ";curve", 4, 48);
         StringBuilder six = new StringBuilder("curve a 1 2");
         for (int k = 0; k < 6; k++) {
             six.append(";cell a 100 1 0 1");
         }
-        good(six.toString(), 6);
-        error(six + ";cell b", 4, 114);
+        CHECK.good(six.toString(), 6);
+        CHECK.error(six + ";cell b", 4, 114);
         String programs = "program rest 1;program rest 1;program rest 1;program rest 1";
-        good(programs, 0);
-        error(programs + ";program 5", 4, 60);
+        CHECK.good(programs, 0);
+        CHECK.error(programs + ";program 5", 4, 60);
     }
 
     private static void numbersOfADescription() {
