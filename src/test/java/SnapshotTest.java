@@ -8,51 +8,6 @@ public final class SnapshotTest {
             + "warn 0 3600 1000;program charge 100 3800 hold 3800 20 rest 5 discharge 200 3100 repeat 0 3;"
             + "program rest 40";
 
-    private static List<Object> everything(CellCycler x) {
-        List<Object> all = new ArrayList<>();
-        all.add(x.now());
-        for (int k = 0; k < 8; k++) {
-            all.add(x.setting(k));
-        }
-        for (int channel = 0; channel < x.count(0); channel++) {
-            for (int what = 0; what <= 10; what++) {
-                all.add(x.value(channel, what));
-            }
-            for (int what = 0; what < 5; what++) {
-                all.add(x.ledger(channel, what));
-            }
-            for (int k = 0; k < 12; k++) {
-                all.add(x.repeats(channel, k));
-                all.add(x.queueAt(channel, k));
-                all.add(x.ticksIn(channel, k % 10));
-            }
-            all.add(x.measuredRest(channel));
-            all.add(x.capacityByRule(channel));
-            all.add(x.internalResistance(channel));
-            all.add(x.warnings(channel));
-            all.add(x.warned(channel));
-            all.add(x.restVoltage(channel, 777));
-            all.add(x.doneIn(channel));
-        }
-        for (int k = 0; k < x.recordCount(); k++) {
-            for (int what = 0; what < 6; what++) {
-                all.add(x.record(k, what));
-            }
-        }
-        for (int k = 0; k < x.logSize(); k++) {
-            for (int what = 0; what < 4; what++) {
-                all.add(x.logEntry(k, what));
-            }
-        }
-        for (int program = 0; program < x.count(1); program++) {
-            for (int step = 0; step < 12; step++) {
-                all.add(x.stepValue(program, step, 0) + 10 * x.stepValue(program, step, 1));
-            }
-        }
-        all.add(x.count(2));
-        return all;
-    }
-
     private static CellCycler busy() {
         CellCycler x = Check.loaded(TEXT);
         x.start(0, 0);
@@ -68,7 +23,7 @@ public final class SnapshotTest {
         CHECK.same("nothing there", x.restoreSnapshot(0), -1);
         CHECK.same("save", x.saveSnapshot(0), 27);
         CHECK.same("nothing in the other", x.restoreSnapshot(1), -1);
-        List<Object> before = everything(x);
+        List<Object> before = Everything.of(x);
         List<Object> later = new ArrayList<>();
         for (int round = 0; round < 2; round++) {
             x.setAmbient(100);
@@ -79,13 +34,13 @@ public final class SnapshotTest {
             x.stop(1);
             x.replace(1, 5);
             if (round == 0) {
-                later = everything(x);
+                later = Everything.of(x);
             } else {
-                CHECK.same("the same calls again", everything(x), later);
+                CHECK.same("the same calls again", Everything.of(x), later);
             }
             CHECK.same("changed", before.equals(later), false);
             CHECK.same("restore", x.restoreSnapshot(0), 27);
-            CHECK.same("all as before", everything(x), before);
+            CHECK.same("all as before", Everything.of(x), before);
             CHECK.same("SPAN as before", x.setDerate(0), 0);
         }
     }
@@ -110,7 +65,7 @@ public final class SnapshotTest {
     private static void overLoads() {
         CellCycler x = busy();
         x.saveSnapshot(0);
-        List<Object> before = everything(x);
+        List<Object> before = Everything.of(x);
         CHECK.same("another text", Check.load(x, "curve b 1 2 3;cell b 100 1 0 1;program rest 1"), 1);
         x.advance(1);
         x.saveSnapshot(1);
@@ -119,7 +74,7 @@ public final class SnapshotTest {
         CHECK.same("restore", x.restoreSnapshot(0), 27);
         CHECK.same("the latest load is not in it", x.loadError(), 3);
         CHECK.same("the buffer is not in it", x.append('b'), 2);
-        CHECK.same("all as before", everything(x), before);
+        CHECK.same("all as before", Everything.of(x), before);
         CHECK.same("buffer ab", x.curveNamed(), -1);
         x.append('a');
         CHECK.same("curve a", x.curveNamed(), 0);
