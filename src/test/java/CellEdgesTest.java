@@ -261,6 +261,13 @@ public final class CellEdgesTest {
             CHECK.same("went out", x.ledger(0, 1), (long) -currents[k]);
             CHECK.same("went through", x.ledger(0, 2), (long) -currents[k]);
         }
+        CellCycler least = Check.loaded(FLAT + "cell a 1000 1 0 1;program discharge 1 0");
+        least.replace(0, 1);
+        run(least, 0, 1);
+        CHECK.same("the last unit", least.value(0, 4) * 10 + least.value(0, 6), -10);
+        run(least, 0, 1);
+        CHECK.same("no unit below it", least.value(0, 4) * 10 + least.value(0, 6), 0);
+        CHECK.same("one went out", least.ledger(0, 1), 1L);
     }
 
     // ---- (2)
@@ -938,8 +945,10 @@ public final class CellEdgesTest {
 
     private static void restsThatDoNotMeasure() {
         CellCycler x = Check.loaded(SLOPE + "cell a 1000 1 0 1;program rest 1;program rest 3 rest 3;"
-                + "program charge 100 3000 hold 3000 1");
+                + "program charge 100 3000 hold 3000 1;program discharge 1 5000");
         CHECK.same("none", x.measuredRest(0), -1);
+        run(x, 3, 1);
+        CHECK.same("a discharge that ends", x.measuredRest(0) * 10 + x.recordCount(), -9);
         run(x, 1, 2);
         x.skip(0);
         CHECK.same("skipped", x.measuredRest(0), -1);
@@ -948,11 +957,11 @@ public final class CellEdgesTest {
         run(x, 2, 9);
         CHECK.same("of other steps", x.measuredRest(0), -1);
         run(x, 0, 1);
-        CHECK.same("one that ended", x.measuredRest(0), 3600);
+        CHECK.same("one that ended", x.measuredRest(0), 3599);
         x.setLimits(0, 0);
         run(x, 0, 1);
         CHECK.same("one that trips does not end", x.value(0, 0), 4);
-        CHECK.same("stays", x.measuredRest(0), 3600);
+        CHECK.same("stays", x.measuredRest(0), 3599);
         x.stop(0);
         x.replace(0, 500);
         CHECK.same("of another cell", x.measuredRest(0), -1);

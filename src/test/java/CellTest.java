@@ -328,6 +328,11 @@ public final class CellTest {
         CHECK.same("0 is not below the usual LOW", usual.warned(0), 0);
         CHECK.same("5000 is not above the usual HIGH", usual.warned(1), 0);
         CHECK.same("5001 is", usual.warned(2), 1);
+        CellCycler below = Check.loaded("curve a 0 0;cell a 1000 10 0 1;program discharge 100 0");
+        below.start(0, 0);
+        below.advance(1);
+        CHECK.same("1 below 0", below.value(0, 5), -1);
+        CHECK.same("is below the usual LOW", below.warned(0), 2);
         CellCycler hotter = Check.loaded("curve a 0 0;cell a 1000 100 0 1;heat 1 0;limits 0 5000 1000;"
                 + "program charge 2740 5000;program charge 100 5000");
         hotter.start(0, 0);

@@ -17,6 +17,11 @@ final class Everything {
         all.add(span);
         for (int channel = 0; channel < x.count(0); channel++) {
             addChannel(all, x, channel);
+            all.add(x.counting(channel));
+            all.add(x.loss(channel));
+            for (int event = 0; event < 6; event++) {
+                all.add(x.eventsOf(channel, event));
+            }
         }
         all.add(x.weakest());
         all.add(x.hottest());
@@ -34,6 +39,13 @@ final class Everything {
         all.add(x.count(0));
         all.add(x.count(1));
         all.add(x.count(2));
+        return all;
+    }
+
+    /** All of a channel itself, without its records and its entries of the log. */
+    static List<Object> ofChannel(CellCycler x, int channel) {
+        List<Object> all = new ArrayList<>();
+        addChannel(all, x, channel);
         return all;
     }
 
@@ -65,8 +77,6 @@ final class Everything {
         all.add(x.restVoltage(channel, 0));
         all.add(x.restVoltage(channel, 777));
         all.add(x.chargeFor(channel, 3333));
-        all.add(x.counting(channel));
-        all.add(x.loss(channel));
         all.add(x.doneIn(channel));
         all.add(x.tripsIn(channel));
         all.add(x.stepEndsIn(channel));
@@ -75,9 +85,6 @@ final class Everything {
         for (int program = 0; program < x.count(1); program++) {
             all.add(x.duration(channel, program));
             all.add(x.capacityIf(channel, program));
-        }
-        for (int event = 0; event < 6; event++) {
-            all.add(x.eventsOf(channel, event));
         }
     }
 

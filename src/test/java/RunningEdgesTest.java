@@ -171,6 +171,49 @@ public final class RunningEdgesTest {
         CHECK.same("as its capacity is again", worn.value(0, 7), 1000);
     }
 
+    /** "all of the channel is as behind load()", whatever it has been through. */
+    private static void replacedIsAsLoaded() {
+        String text = "curve a 3000 4000;efficiency 999;fade 300;heat 90 5;warn 3300 3600 260;derate 20;"
+                + "cell a 1000 300 200 7;program charge 100 3900 hold 3900 20 rest 3 discharge 151 3100 repeat 0 2;"
+                + "program rest 1 repeat 0 50;program charge 1 5000";
+        CellCycler x = Check.loaded(text);
+        x.start(0, 0);
+        x.advance(31);
+        x.enqueue(0, 1);
+        x.enqueue(0, 0);
+        x.setLimits(0, 3000);
+        x.advance(1);
+        CHECK.same("tripped", x.value(0, 0) * 10 + x.value(0, 10), 41);
+        CHECK.same("with a repeat", x.repeats(0, 4) > 0, true);
+        CHECK.same("with warnings", x.warnings(0) > 1, true);
+        CHECK.same("with records that count", x.counting(0) > 0, true);
+        CHECK.same("worn", x.value(0, 7) < 1000, true);
+        CHECK.same("measured", x.measuredRest(0) > 0 && x.internalResistance(0) != -1, true);
+        x.setLimits(0, 5000);
+        int records = x.recordCount();
+        int entries = x.logSize();
+        CellCycler fresh = Check.loaded(text);
+        fresh.replace(0, 777);
+        x.replace(0, 777);
+        CHECK.same("the records stay", x.recordCount(), records);
+        CHECK.same("and the log, with one more", x.logSize(), entries + 1);
+        CHECK.same("as behind load", Everything.ofChannel(x, 0), Everything.ofChannel(fresh, 0));
+        x.advance(1);
+        fresh.advance(1);
+        CHECK.same("a tick later", Everything.ofChannel(x, 0), Everything.ofChannel(fresh, 0));
+        for (int program : new int[] {2, 0, 1}) {
+            x.start(0, program);
+            fresh.start(0, program);
+            for (int n = 0; n < 3; n++) {
+                x.advance(11);
+                fresh.advance(11);
+                CHECK.same("running", Everything.ofChannel(x, 0), Everything.ofChannel(fresh, 0));
+            }
+            x.stop(0);
+            fresh.stop(0);
+        }
+    }
+
     private static void statesOfOthers() {
         for (int state = 0; state < 5; state++) {
             CellCycler x = in(state);
@@ -555,6 +598,7 @@ public final class RunningEdgesTest {
         skipInStates();
         stopInStates();
         replaceInStates();
+        replacedIsAsLoaded();
         statesOfOthers();
         sixAtOnce();
         queueOfFour();

@@ -221,6 +221,37 @@ public final class SnapshotEdgesTest {
         CHECK.same("of the whole step", x.capacityByRule(0), 501);
     }
 
+    /** Behind a full log and full records the older rows make room: a copy must not follow them. */
+    private static void fullRowsAreInIt() {
+        CellCycler x = Check.loaded("curve a 3000 4000;cell a 1000 1 0 1;cell a 1000 1 0 1;"
+                + "program hold 0 5000 discharge 3 5000 repeat 0 50;program discharge 1 5000 repeat 0 50");
+        x.start(0, 0);
+        for (int slot = 0; slot < 2; slot++) {
+            x.advance(slot == 0 ? 65 : 8);
+            CHECK.same("full", x.recordCount() * 100 + x.logSize(), 3060);
+            x.saveSnapshot(slot);
+        }
+        List<Object> second = Everything.of(x);
+        x.restoreSnapshot(0);
+        List<Object> first = Everything.of(x);
+        CHECK.same("they differ", first.equals(second), false);
+        for (int n = 1; n <= 40; n += 13) {
+            x.start(1, 1);
+            x.advance(n);
+            x.doneIn(1);
+            x.restoreSnapshot(1);
+            CHECK.same("all of the second", Everything.of(x), second);
+            x.advance(2 * n);
+            x.restoreSnapshot(0);
+            CHECK.same("all of the first", Everything.of(x), first);
+        }
+        Check.load(x, CELL + "program rest 1");
+        x.start(0, 0);
+        x.advance(1);
+        x.restoreSnapshot(1);
+        CHECK.same("behind a load too", Everything.of(x), second);
+    }
+
     private static void warningsAreInIt() {
         CellCycler x = Check.loaded(CELL + "warn 0 3000 1000;program rest 50");
         x.start(0, 0);
@@ -250,6 +281,7 @@ public final class SnapshotEdgesTest {
         moreAndFewerChannels();
         atTheLastTime();
         hiddenNumbers();
+        fullRowsAreInIt();
         warningsAreInIt();
         CHECK.finish();
     }

@@ -359,7 +359,7 @@ public final class TextEdgesTest {
     private static void withoutAStatement() {
         int[] usual = {990, 100000, 100, 5, 0, 5000, 600, 250};
         CellCycler x = Check.loaded("efficiency 600;fade 200;heat 70 60;limits 1 2 300;ambient 11;derate 9;"
-                + "warn 3 4 5");
+                + "warn 4000 4001 5");
         x.setLimits(7, 8);
         x.setAmbient(99);
         Check.load(x, "curve a 3000 3000;cell a 1000 1 0 1;program rest 9");
@@ -370,6 +370,40 @@ public final class TextEdgesTest {
         x.start(0, 0);
         x.advance(1);
         CHECK.same("without warn", x.warned(0), 0);
+    }
+
+    /** What a text leaves out is not taken from one before, nor from what a prediction has tried. */
+    private static void anewByEachText() {
+        CellCycler x = Check.loaded("curve a 0 10 20 4000 5000;curve b 1 2;cell a 1000 1 0 1;cell b 1000 1 0 1;"
+                + "program rest 1 repeat 0 50 repeat 0 50;program hold 0 5000 discharge 9 5000 repeat 0 50");
+        x.start(0, 1);
+        x.start(1, 0);
+        x.enqueue(1, 1);
+        x.advance(99);
+        x.doneIn(1);
+        x.capacityIf(0, 1);
+        CHECK.same("records", x.recordCount() > 28, true);
+        CHECK.same("a full log", x.logSize(), 60);
+        CHECK.same("two voltages only", Check.load(x, "curve a 3000 4000;cell a 1000 1 0 1;program rest 1"), 1);
+        CHECK.same("now", x.now(), 0);
+        CHECK.same("rest voltage", x.restVoltage(0, 250), 3250);
+        CHECK.same("no log", x.logSize(), 0);
+        CHECK.same("no records", x.recordCount(), 0);
+        CHECK.same("idle", x.inState(0), 1);
+        CHECK.same("no queue", x.queueSize(0), 0);
+        CHECK.same("no program", x.value(0, 1), -1);
+        CHECK.same("no step 1", x.stepValue(0, 1, 0), -1);
+        x.start(0, 0);
+        CHECK.same("no repeat of the text before", x.doneIn(0), 1);
+        CHECK.same("its step ends", x.advance(1), 1);
+        CHECK.same("and it is done", x.value(0, 0), 3);
+        int[][] due = {{0, 0, 0, 0}, {1, 0, 1, 0}, {1, 0, 2, 0}};
+        CHECK.same("three events", x.logSize(), due.length);
+        for (int k = 0; k < due.length; k++) {
+            for (int what = 0; what < 4; what++) {
+                CHECK.same("entry " + k + ", " + what, x.logEntry(k, what), due[k][what]);
+            }
+        }
     }
 
     // ---- the buffer
@@ -556,6 +590,7 @@ public final class TextEdgesTest {
         theFirstErrorEndsIt();
         theLastOneCounts();
         withoutAStatement();
+        anewByEachText();
         buffer();
         fullBuffer();
         whatEmptiesTheBuffer();
