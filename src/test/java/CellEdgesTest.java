@@ -1013,6 +1013,21 @@ public final class CellEdgesTest {
         CHECK.same("the smallest of equals", x.weakest(), 0);
         x.advance(1);
         CHECK.same("998 of 2000", x.weakest(), 1);
+        CellCycler worn = Check.loaded(FLAT + "fade 100;cell a 10000 1 0 1;cell a 10000 1 0 1;program charge 5000 5000;"
+                + "program charge 4500 5000;program charge 100 5000");
+        worn.start(0, 0);
+        worn.start(1, 0);
+        worn.advance(89);
+        run(worn, 1, 1);
+        worn.stop(0);
+        CHECK.same("5505 of 10000", worn.value(0, 7), 5505);
+        CHECK.same("5500", worn.value(1, 7), 5500);
+        CHECK.same("are 550 thousandths both", worn.weakest(), 0);
+        worn.stop(1);
+        worn.start(1, 2);
+        worn.advance(1);
+        CHECK.same("5499", worn.value(1, 7), 5499);
+        CHECK.same("are 549", worn.weakest(), 1);
     }
 
     private static void hottestOfEquals() {
