@@ -703,6 +703,22 @@ public final class CellEdgesTest {
         CHECK.same("none of a new cell", x.internalResistance(0), -1);
     }
 
+    private static void resistanceOfHold() {
+        // The rest voltage is 3500 at first: i is 1000, and 3510 is left behind it.
+        CellCycler x = ran(SLOPE + "cell a 100000 100 0 1;program hold 3600 10", 1);
+        CHECK.same("the first current", x.value(0, 4), 1000);
+        CHECK.same("3610 by 1000", x.internalResistance(0), 3610);
+        x.advance(1);
+        CHECK.same("the second current", x.value(0, 4), 900);
+        CHECK.same("is not measured", x.internalResistance(0), 3610);
+        x.pause(0);
+        x.advance(1);
+        x.resume(0);
+        x.advance(1);
+        CHECK.same("the current behind a pause", x.value(0, 4), 810);
+        CHECK.same("is not measured either", x.internalResistance(0), 3610);
+    }
+
     private static void resistanceSigns() {
         CellCycler x = ran(FLAT + "cell a 100000 100 0 1;program discharge 7 0;program charge 7 5000", 1);
         // 3000 * 1000 / -7, cut toward 0.
@@ -1093,6 +1109,7 @@ public final class CellEdgesTest {
         bandBehindTheTick();
         resistanceAtFirstTicks();
         resistanceBehindPause();
+        resistanceOfHold();
         resistanceSigns();
         resistanceInTripTick();
         warningBounds();

@@ -477,6 +477,19 @@ public final class PredictionEdgesTest {
         CHECK.same("nothing is left of it at HOT", hot.safeCurrent(0, 1000), 5000);
     }
 
+    /** Where currents are cut, a greater one may stay cooler than a smaller one. */
+    private static void safeBeyondUnsafe() {
+        CellCycler x = Check.loaded(FLAT + "heat 1 0;limits 0 5000 400;derate 50");
+        CHECK.same("to 394 at once", x.safeCurrent(0, 1), 1200);
+        // 800 goes to 314 and 378, 900 to 331 and 412; 1000 to 350, where it isn't cut, and 450;
+        // 1200 to 394, and then as 144 to 396; 1300 to 419.
+        CHECK.same("800 is safe, 900 is not, 1200 is", x.safeCurrent(0, 2), 1200);
+        CellCycler y = Check.loaded("curve a 3000 3000;cell a 100000 350 0 1;heat 1 0;limits 0 5000 264;derate 1");
+        // 200 goes to 264, where nothing is left of it; 100 to 253, 256, 259, 262 and 265.
+        CHECK.same("100 for 4 ticks, and 200", y.safeCurrent(0, 4), 200);
+        CHECK.same("not 100 for 5 ticks", y.safeCurrent(0, 5), -1);
+    }
+
     // ---- time and state
 
     private static void behindTheLastTime() {
@@ -604,6 +617,7 @@ public final class PredictionEdgesTest {
         safeFromNowOn();
         safeOfFullCell();
         safeWithDerating();
+        safeBeyondUnsafe();
         behindTheLastTime();
         changeNothing();
         aloneAsTogether();
